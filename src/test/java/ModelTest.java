@@ -524,6 +524,7 @@ public final class ModelTest {
     private static void change(StripPage x, Model m) {
         int a = number(5);
         int b = number(5);
+        int c = number(1);
         switch (pick(9)) {
             case 0: due("swaps", x.swaps(a, b), m.swaps(a, b, false)); break;
             case 1: due("moves", x.moves(a, b), m.swaps(a, b, true)); break;
@@ -531,10 +532,18 @@ public final class ModelTest {
             case 3: due("takes", x.takes(a), m.takes(a)); break;
             case 4:
             case 5: due("lays", x.lays(a), m.lays(a)); break;
-            case 6: due("undo", x.undo(), m.undo()); break;
-            case 7: due("keep", x.keep(a), m.keep(a)); break;
-            default: due("back", x.back(a), m.back(a)); break;
+            case 6:
+                for (int k = pick(4) == 0 ? 12 : 1; k > 0; k--) undo(x, m);
+                break;
+            case 7: due("keep", x.keep(c), m.keep(c)); break;
+            default: due("back", x.back(c), m.back(c)); break;
         }
+    }
+
+    private static void undo(StripPage x, Model m) {
+        due("undo", x.undo(), m.undo());
+        due("order, undone", x.now(3), m.now(3));
+        for (int s = 0; s < 6; s++) due("turned, undone", x.strip(s, 1), m.strip(s, 1));
     }
 
     private static void ask(StripPage x, Model m) {

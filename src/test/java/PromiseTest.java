@@ -149,6 +149,7 @@ public final class PromiseTest {
         fault("n4;", 1);
         fault("n01;", 1);
         fault("n10;", 1);
+        fault("n29;", 1);
         fault("n100;", 1);
         fault("n a;", 2);
         fault("n;", 1);
@@ -316,12 +317,11 @@ public final class PromiseTest {
             x.moves(0, 2);
             due("known " + k, x.count(4), Math.min(10, k + 1));
         }
-        x.turn(0);
         for (int k = 9; k >= 0; k--) {
             due("undo " + k, x.undo(), k);
         }
         due("older ones are lost", x.undo(), STATE);
-        due("as ahead of the oldest known", x.now(3), 123);
+        due("as ahead of the oldest known", x.now(3), 312);
         x.moves(0, 1);
         due("undo of one more", x.undo(), 0);
     }
@@ -358,6 +358,17 @@ public final class PromiseTest {
         due("a run longer than all words", read("n1;s aa;s aa;s aa;s aa;w aaaaaa;").now(1), 0);
         due("a part of a word", read("n1;s aa;w aaa;").now(1), 0);
         due("more than a word", read("n1;s aa;w a;").now(1), 0);
+    }
+
+    private static void mostWords() {
+        String words = "w abcdef;w bcdefa;w cdefab;w defabc;w efabcd;w fabcde;w gabcde;w habcde;";
+        StripPage x = read("n1;s ha;s bc;s de;s ..;" + words);
+        due("the last of most words", x.now(1), 1);
+        due("its last letter", x.word(7, 5), 'e');
+        StripPage y = read("n1;s ab;s cd;s ef;" + words);
+        due("the first of most words", y.now(1), 1);
+        y.swaps(0, 1);
+        due("none of most words", y.now(1), 0);
     }
 
     private static void movesNeeded() {
@@ -571,6 +582,11 @@ public final class PromiseTest {
         due("trace stays", x.trace(), 1);
         due("undone then", x.undo(), 1);
         due("undone then, order", x.now(3), 123);
+        due("undone again", x.undo(), 0);
+        due("undone again, turned", x.strip(2, 1), 0);
+        due("undone again, order", x.now(3), 123);
+        x.takes(1);
+        x.takes(2);
         due("image is as it was", x.back(1), 2);
         due("known is as it was", x.count(4), 2);
         due("back to the other", x.back(0), 3);
@@ -600,6 +616,7 @@ public final class PromiseTest {
         changes();
         undoing();
         nowAndLines();
+        mostWords();
         movesNeeded();
         aliens();
         orders();
