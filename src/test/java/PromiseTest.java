@@ -603,6 +603,15 @@ public final class PromiseTest {
             due("count " + n, x.count(n), BAD);
         }
         due("count 6", x.count(6), BAD);
+        StripPage y = read("n1;s ab;s cd;s ef;w ab;");
+        y.swaps(0, 1);
+        y.keep(0);
+        for (int k = 0; k < 12; k++) {
+            y.moves(0, 2);
+        }
+        due("back over lost changes", y.back(0), 3);
+        due("undone behind it", y.undo(), 0);
+        due("the image's own past", y.now(3), 123);
     }
 
     public static void main(String[] args) {
