@@ -67,6 +67,11 @@ final class Edge {
         return this;
     }
 
+    Edge same(String constant, long got, long want) {
+        must(got == want, constant + " is " + got + ", due is " + want);
+        return this;
+    }
+
     /** Calls with # for a number that grows from 0 on, and what each of them is due to answer. */
     Edge dues(String call, long... wants) {
         for (int k = 0; k < wants.length; k++) {

@@ -71,6 +71,10 @@ final class OrderEdges {
         Edge.of(19, "STRIPS on THE DESK alone").reads("n1;s ba;s dc;s ef;w abcd;w cd;w ef;").does("turn(2)", "takes(2)").dues("either(#)", 1, 12, 3)
                 .does("takes(0)").dues("either(#)", 1, 2, 2).does("takes(1)", "lays(2)").dues("either(#)", 1, 3, 0).does("undo()", "undo()")
                 .dues("either(#)", 1, 2, 2);
+        // As many strips lie there as did ahead of it, but what they tell, or the words alone, are others.
+        Edge.of(19, "(Read anew: as told").reads("n1;s ba;s dc;w abcd;").dues("either(#)", 1, 12, 3).reads("n1;s ab;s cd;w abcd;w cdab;")
+                .dues("either(#)", 2, 12, 0).reads("n1;s ab;s cd;w dcab;").dues("either(#)", 1, 21, 2).types("n1;s ab;s cd;w #")
+                .due("page()", -25).dues("either(#)", 1, 21, 2);
         Edge bad = Edge.of(19, "who is TURNED (2; NONE). BAD.").reads(CHAIN).refuses(BAD, Edge.beyond("either(#)", 3));
         bad.anew().refuses(BAD, Edge.beyond("either(#)", 3)).reads("n1;s ab;").refuses(BAD, Edge.beyond("either(#)", 3));
     }

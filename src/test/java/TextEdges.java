@@ -34,6 +34,9 @@ final class TextEdges {
         Edge.of(1, "THE TEXT is empty").due("clear()", 0).due("page()", 0).dues("count(#)", 2, 0, 0, 0, 0, 0);
         Edge.of(1, "Nothing was SEEN").due("forget()", 0).due("which()", 0).due("look()", NONE);
         Edge.of(1, "THE TRACE.").due("trace()", 0);
+        Edge.of(1, "BAD = -1, STATE = -2, FULL = -3, NONE = -9;").same("BAD", StripPage.BAD, -1).same("STATE", StripPage.STATE, -2)
+                .same("FULL", StripPage.FULL, -3).same("NONE", StripPage.NONE, -9);
+        Edge.of(1, "NO = -1000000;").same("NO", StripPage.NO, -1000000);
     }
 
     private static void type() {
@@ -91,6 +94,7 @@ final class TextEdges {
         words.anew().types("w a;".repeat(8)).due("page()", 8).due("count(2)", 8).due("word(7, 0)", 'a');
         words.anew().types("n1;s aa;").due("page()", 2).due("count(2)", 0).due("now(1)", 0);
         words.fault("w a;".repeat(9), 32).fault("w a;".repeat(8) + " w", 33).fault("w a;".repeat(8) + "w #", 32);
+        eightLongWords();
         Edge letters = Edge.of(4, "w and a row of 1 to 6 letters").fault("w;", 1).fault("w ;", 2).fault("w abcdefg;", 2)
                 .fault("w " + "a".repeat(148), 2);
         letters.anew().types("w z;").due("page()", 1).dues("word(0, #)", 'z', NONE, NONE, NONE, NONE, NONE);
@@ -104,6 +108,21 @@ final class TextEdges {
         twice.anew().types("n1;s a.;" + "w a;".repeat(8)).due("page()", 10).due("count(2)", 8).due("now(2)", 1).due("line(0, 1)", 1)
                 .due("best(0)", 1).due("orders(0)", 1).due("word(7, 0)", 'a');
         twice.fault("n1;s a.;" + "w a;".repeat(9), 40);
+    }
+
+    /** Eight words of six letters that have no beginning in common: no page can tell more. */
+    private static void eightLongWords() {
+        Edge eight = Edge.of(4, "WORDS 0 .. (8 at most): 1 to 6 letters.");
+        String words = "";
+        for (char c = 'a'; c < 'i'; c++) {
+            words += "w " + c + "vwxyz;";
+        }
+        for (char c = 'a'; c < 'i'; c++) {
+            eight.anew().reads("n1;s " + c + "v;s wx;s yz;" + words).due("now(1)", 1).due("line(0, 1)", 1).due("orders(0)", 1)
+                    .due("best(0)", 6).dues("word(" + (c - 'a') + ", #)", c, 'v', 'w', 'x', 'y', 'z');
+            eight.anew().reads("n1;s " + c + "v;s wx;s y.;" + words).due("now(1)", 0).due("orders(0)", 0).due("best(0)", 0);
+        }
+        eight.anew().reads("n1;s iv;s wx;s yz;" + words).due("now(1)", 0).due("orders(0)", 0).due("best(0)", 0);
     }
 
     private static void signsAndTokens() {
@@ -139,7 +158,7 @@ final class TextEdges {
         Edge.of(4, "a WORD with a point or too long").fault("w .;", 2).fault("w a.;", 2).fault("w .a;", 2).fault("w abcde.;", 2)
                 .fault("w abcdefg;", 2).fault("w abcdef.;", 2).fault("w 1;", 2);
         Edge.of(4, "a NUMBER beyond what it may be, too").fault("n0;", 1).fault("n4;", 1).fault("n9;", 1).fault("n10;", 1)
-                .fault("n11;", 1).fault("n31;", 1).fault("n99;", 1);
+                .fault("n11;", 1).fault("n19;", 1).fault("n31;", 1).fault("n39;", 1).fault("n99;", 1).fault("n1 9", 3);
         Edge.of(4, "ITEMS, each a letter and what is told, ended by ;").fault("n a;", 2).fault("n;", 1).fault("n1 n", 3)
                 .fault("n1;s ab w a;", 8).fault("w a w b;", 4).fault("w a 1;", 4);
         // The first from the left is told, whatever comes behind it.
