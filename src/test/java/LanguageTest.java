@@ -88,6 +88,11 @@ public final class LanguageTest {
         while (forbidden.find()) must(false, "no " + forbidden.group());
         Matcher imports = Pattern.compile("import ([^;]*);").matcher(code);
         while (imports.find()) must(imports.group(1).equals("java.util.Arrays"), "no import of " + imports.group(1));
+        // What is made by a call would be counted with each call: fields and one constructor alone make something.
+        for (String line : code.split("\n")) {
+            boolean field = line.matches(" {4,8}(private |final )+[\\w\\[\\]]+ \\w+ = new [^;]*;");
+            must(!line.matches(".*\\bnew\\b.*") || field || line.trim().equals("past[k] = new Row();"), "made by no call: " + line.trim());
+        }
         int length = 0;
         for (String line : text.split("\n")) {
             length = line.matches(" {4,8}(public|private|final|static|abstract|int|long|boolean|void)?.*\\) \\{") ? 0 : length + 1;

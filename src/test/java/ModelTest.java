@@ -4,9 +4,11 @@ import java.util.List;
 
 /** Long runs of calls by a fixed sequence of chances, each answer held against a slow model in plain texts and lists. */
 public final class ModelTest {
-    private static final int RUNS = 1500, CALLS = 128;
+    /** An object answers 512 calls; a round makes some of them, and what is typed anew or undone again and again makes most. */
+    private static final int RUNS = 1500, ROUNDS = 128, MOST_CALLS = 512, DEAREST_ROUND = 170;
     private static long chance = 20261117L;
     private static int wrong = 0;
+    private static int calls = 0;
 
     private static int pick(int below) {
         chance = chance * 6364136223846793005L + 1442695040888963407L;
@@ -465,6 +467,7 @@ public final class ModelTest {
     }
 
     private static void due(String what, long got, long want) {
+        calls++;
         if (got != want) {
             wrong++;
             if (wrong < 50) System.out.println(what + " answered " + got + ", due is " + want);
@@ -596,10 +599,11 @@ public final class ModelTest {
         for (int run = 0; run < RUNS; run++) {
             StripPage x = new StripPage();
             Model m = new Model();
+            calls = 0;
             typeAndRead(x, m);
-            for (int call = 0; call < CALLS; call++) {
+            for (int round = 0; round < ROUNDS && calls + DEAREST_ROUND <= MOST_CALLS; round++) {
                 int kind = pick(60);
-                if (kind == 0 && call > 60) {
+                if (kind == 0 && round > 60) {
                     typeAndRead(x, m);
                 } else if (kind < 18) {
                     change(x, m);
@@ -609,6 +613,7 @@ public final class ModelTest {
                     see(x, m);
                 }
             }
+            if (calls > MOST_CALLS) throw new IllegalStateException("the test makes " + calls + " calls");
         }
         System.out.println(wrong == 0 ? "all answers are the model's" : wrong + " answers are not the model's");
         if (wrong != 0) System.exit(1);
